@@ -21,6 +21,8 @@ public final class FragmentsTest {
         said("a byte missing", OnceWire.BROKEN, Wire.join(Wire.words(LAST + 13), CALL));
         said("2^31 - 1 bytes", OnceWire.BROKEN, Wire.join(Wire.words(Integer.MAX_VALUE), CALL));
         said("2^31 - 1 bytes, last", OnceWire.BROKEN, Wire.join(Wire.words(-1), CALL));
+        said("a whole one, then one cut short", OnceWire.BROKEN,
+                Wire.join(Wire.words(12), CALL, Wire.words(LAST + 1)));
         said("half a second word", OnceWire.BROKEN,
                 Wire.join(Wire.words(12), CALL, new int[] {128, 0}));
         said("eleven bytes", OnceWire.BROKEN, Wire.join(Wire.words(LAST + 11),

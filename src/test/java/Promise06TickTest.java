@@ -26,6 +26,7 @@ public final class Promise06TickTest {
         due.same("tick 7 sends call 1", x.tick(), 1);
         due.callRecord("call 1 again", x, 4, 1, 1);
         due.same("flight", x.flight(), 5);
+        due.same("it goes to the server", x.deliver(4), OnceWire.RAN);
     }
 
     private static void sameBytes(Due due) {

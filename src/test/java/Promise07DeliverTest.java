@@ -32,6 +32,8 @@ public final class Promise07DeliverTest {
         due.same("again", x.deliver(0), OnceWire.AGAIN);
         due.same("two replies", x.flight(), 2);
         due.same("ran twice in all", x.runs(), 2);
+        due.same("the reply sent again goes to the client", x.deliver(1), OnceWire.ACCEPTED);
+        due.same("the first one then is stale", x.deliver(0), OnceWire.STALE);
         fullLine(due);
         due.end();
     }
