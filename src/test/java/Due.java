@@ -1,11 +1,16 @@
 /** Counts answers that are not the ones that are due, and ends the test accordingly. */
 final class Due {
     private int wrong = 0;
+    private String sentence = "";
+
+    /** The words of the document by which the answers that follow are due. */
+    void of(String quote) {
+        sentence = quote;
+    }
 
     void same(String what, long got, long want) {
         if (got != want) {
-            wrong++;
-            System.out.println(what + " answered " + got + ", due is " + want);
+            wrong(what + " answered " + got + ", due is " + want);
         }
     }
 
@@ -15,6 +20,11 @@ final class Due {
 
     void no(String what, boolean got) {
         same(what, got ? 1 : 0, 0);
+    }
+
+    void wrong(String what) {
+        wrong++;
+        System.out.println(what + (sentence.isEmpty() ? "" : "\n  by: " + sentence));
     }
 
     void bytes(String what, OnceWire x, int k, int... want) {
@@ -27,6 +37,11 @@ final class Due {
     /** What the message of the record has to look like, header words and body bytes given. */
     void callRecord(String what, OnceWire x, int k, int xid, int procedure, int... body) {
         bytes(what, x, k, Wire.message(Wire.record(xid, 0, procedure, body)));
+    }
+
+    /** The same for a reply; the result is given for status 0 alone. */
+    void replyRecord(String what, OnceWire x, int k, int xid, int status, int... result) {
+        bytes(what, x, k, Wire.message(Wire.record(xid, 1, status, Wire.words(result))));
     }
 
     void end() {

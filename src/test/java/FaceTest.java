@@ -22,7 +22,13 @@ public final class FaceTest {
 
     public static void main(String[] args) throws ReflectiveOperationException {
         DUE.same("public final", OnceWire.class.getModifiers(), Modifier.PUBLIC | Modifier.FINAL);
+        DUE.of("The constants: `PENDING = 3`, `NONE = -1`, `BROKEN = -2`, `WRONG = -3`, `BAD = -4`,"
+                + " `FULL = -5`: The status of a pending call.");
         alike("constants", constants(), Set.of(CONSTANTS));
+        OnceWire x = new OnceWire(0);
+        x.call(0);
+        DUE.same("the status of a pending call", x.status(0), OnceWire.PENDING);
+        DUE.of("");
         alike("methods", methods(), Set.of(METHODS));
         Constructor<?>[] made = OnceWire.class.getDeclaredConstructors();
         DUE.same("constructors", made.length, 1);

@@ -1,45 +1,66 @@
-/** Promise 12: the total, as the four procedures change it. */
+/** Promise 12: the server's total, which runs of procedures 1 and 2 change and nothing else does. */
 public final class Promise12TotalTest {
+    private static final Due DUE = new Due();
+
     public static void main(String[] args) {
-        Due due = new Due();
+        DUE.of("The server's total.");
+        asItRuns();
+        edges();
+        notByOthers();
+        looking();
+        DUE.end();
+    }
+
+    private static void asItRuns() {
+        OnceWire x = new OnceWire(1);
+        DUE.same("at first", x.total(), 0);
+        x.field(1, 1, false);
+        x.put(0, 50);
+        x.call(1);
+        DUE.same("called, not run", x.total(), 0);
+        x.deliver(0);
+        DUE.same("run, not answered", x.total(), 50);
+        x.deliver(0);
+        DUE.same("answered", x.total(), 50);
+    }
+
+    private static void edges() {
+        int[] edges = {0, 1, -1, Integer.MAX_VALUE, Integer.MIN_VALUE};
+        for (int edge : edges) {
+            for (int more = -1; more <= 1; more++) {
+                OnceWire x = new OnceWire(1);
+                x.field(1, 1, false);
+                DUE.same("set", Wire.handCall(x, 1, 2, Wire.words(edge)), OnceWire.RAN);
+                DUE.same("set to " + edge, x.total(), edge);
+                DUE.same("grow", Wire.handCall(x, 2, 1, Wire.words(more)), OnceWire.RAN);
+                DUE.same(edge + " and " + more, x.total(), edge + more);
+            }
+        }
+    }
+
+    private static void notByOthers() {
         OnceWire x = new OnceWire(1);
         x.field(1, 1, false);
-        step(due, x, 1, 50, 50, 50);
-        step(due, x, 1, -80, -30, -30);
-        step(due, x, 0, 9, -30, 0);
-        step(due, x, 3, 9, -30, -30);
-        step(due, x, 2, Integer.MAX_VALUE, Integer.MAX_VALUE, -30);
-        step(due, x, 1, 1, Integer.MIN_VALUE, Integer.MIN_VALUE);
-        step(due, x, 2, 4, 4, Integer.MIN_VALUE);
-        due.same("no procedure", Wire.handCall(x, -1, 4, 0, 0, 0, 1), OnceWire.NOPROCEDURE);
-        due.same("garbage", Wire.handCall(x, -2, 1, 0, 0, 0), OnceWire.GARBAGE);
-        due.same("they change nothing", x.total(), 4);
-        digests(due);
-        due.end();
+        int[] five = Wire.words(5);
+        Wire.handCall(x, 1, 2, five);
+        DUE.same("again", Wire.handCall(x, 1, 2, Wire.words(6)), OnceWire.AGAIN);
+        DUE.same("again", x.total(), 5);
+        DUE.same("procedure 0", Wire.handCall(x, 2, 0, five), OnceWire.RAN);
+        DUE.same("procedure 0", x.total(), 5);
+        DUE.same("procedure 3", Wire.handCall(x, 3, 3, five), OnceWire.RAN);
+        DUE.same("procedure 3", x.total(), 5);
+        DUE.same("procedure 4", Wire.handCall(x, 4, 4, five), OnceWire.NOPROCEDURE);
+        DUE.same("procedure 4", x.total(), 5);
+        DUE.same("garbage", Wire.handCall(x, 5, 1, 0, 0, 0), OnceWire.GARBAGE);
+        DUE.same("garbage", x.total(), 5);
+        DUE.same("wrong", Wire.hand(x, true, Wire.message(Wire.record(6, 1, 1, five))), OnceWire.WRONG);
+        DUE.same("wrong", x.total(), 5);
+        DUE.same("broken", Wire.hand(x, true, 1), OnceWire.BROKEN);
+        DUE.same("broken", x.total(), 5);
     }
 
-    private static void step(Due due, OnceWire x, int procedure, int v, int total, int result) {
-        x.put(0, v);
-        int xid = x.call(procedure);
-        due.same("deliver", x.deliver(0), OnceWire.RAN);
-        due.same("total", x.total(), total);
-        due.same("deliver", x.deliver(0), OnceWire.ACCEPTED);
-        due.same("total", x.total(), total);
-        due.same("result", x.result(xid), result);
-    }
-
-    private static void digests(Due due) {
-        OnceWire x = new OnceWire(1);
-        due.same("no fields", Wire.digest(x, 0), 0);
-        x.field(1, 0, true);
-        due.same("empty list", Wire.digest(x, 1, Wire.words(0)), 0);
-        due.same("list of 0", Wire.digest(x, 2, Wire.words(1, 0)), 31);
-        due.same("list", Wire.digest(x, 3, Wire.words(3, 5, 6, 7)),
-                ((3 * 31 + 5) * 31 + 6) * 31 + 7);
-        x.field(2, 2, false);
-        due.same("list and single", Wire.digest(x, 4, Wire.words(0, 9)), 9);
-        due.same("list and single", Wire.digest(x, 5, Wire.words(1, -2, 9)), (31 - 2) * 31 + 9);
-        due.same("as ints wrap", Wire.digest(x, 6, Wire.words(1, 1 << 30, 3)),
-                (31 + (1 << 30)) * 31 + 3);
+    private static void looking() {
+        new Trace(() -> Pasts.busy(0)).none(DUE, "total", OnceWire::total);
+        new Trace(() -> Pasts.crammed(1)).none(DUE, "total", OnceWire::total);
     }
 }

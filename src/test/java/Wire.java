@@ -8,7 +8,7 @@ final class Wire {
     }
 
     static int[] word(int w) {
-        return ints(ByteBuffer.allocate(4).putInt(w).array());
+        return words(w);
     }
 
     static int[] words(int... ws) {
@@ -19,6 +19,10 @@ final class Wire {
         return ints(all.array());
     }
 
+    static int[] bytes(int... bs) {
+        return bs;
+    }
+
     static int[] join(int[]... parts) {
         ByteArrayOutputStream all = new ByteArrayOutputStream();
         for (int[] part : parts) {
@@ -27,6 +31,37 @@ final class Wire {
             }
         }
         return ints(all.toByteArray());
+    }
+
+    static int[] times(int count, int... part) {
+        int[] all = {};
+        for (int i = 0; i < count; i++) {
+            all = join(all, part);
+        }
+        return all;
+    }
+
+    static int[] first(int count, int... all) {
+        return Arrays.copyOf(all, count);
+    }
+
+    /** The varint of the number, which is read without sign. */
+    static int[] varint(long number) {
+        int length = 1;
+        while (length < 10 && number >>> (7 * length) != 0) {
+            length++;
+        }
+        return varint(number, length);
+    }
+
+    /** The number's lowest seven bits in each of so many bytes, needed or not. */
+    static int[] varint(long number, int length) {
+        int[] all = new int[length];
+        for (int i = 0; i < length; i++) {
+            int seven = i < 10 ? (int) (number >>> (7 * i)) & 127 : 0;
+            all[i] = seven + (i == length - 1 ? 0 : 128);
+        }
+        return all;
     }
 
     static int[] record(int first, int second, int third, int... body) {
@@ -48,12 +83,16 @@ final class Wire {
         return join(word(record.length + Integer.MIN_VALUE), record);
     }
 
-    static int hand(OnceWire x, boolean server, int... message) {
-        for (int b : message) {
+    static void add(OnceWire x, int... bytes) {
+        for (int b : bytes) {
             if (!x.add(b)) {
                 throw new IllegalStateException("a test's bytes were not taken");
             }
         }
+    }
+
+    static int hand(OnceWire x, boolean server, int... message) {
+        add(x, message);
         return x.hand(server);
     }
 
