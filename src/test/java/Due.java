@@ -2,13 +2,23 @@
 final class Due {
     private int wrong = 0;
     private String sentence = "";
+    private int looked = 0;
 
     /** The words of the document by which the answers that follow are due. */
     void of(String quote) {
+        lookedAtAll();
         sentence = quote;
+        looked = 0;
+    }
+
+    private void lookedAtAll() {
+        if (!sentence.isEmpty() && looked == 0) {
+            wrong("no answer was looked at");
+        }
     }
 
     void same(String what, long got, long want) {
+        looked++;
         if (got != want) {
             wrong(what + " answered " + got + ", due is " + want);
         }
@@ -20,6 +30,14 @@ final class Due {
 
     void no(String what, boolean got) {
         same(what, got ? 1 : 0, 0);
+    }
+
+    /** What happened shows by none of the questions asked after it. */
+    void noTrace(String what, String shownBy) {
+        looked++;
+        if (!shownBy.isEmpty()) {
+            wrong(what + " changed what is shown by: " + shownBy);
+        }
     }
 
     void wrong(String what) {
@@ -45,6 +63,7 @@ final class Due {
     }
 
     void end() {
+        lookedAtAll();
         if (wrong != 0) {
             System.out.println(wrong + " answers are not as due");
             System.exit(1);

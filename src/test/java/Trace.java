@@ -28,10 +28,7 @@ final class Trace {
 
     /** Due: it is all one whether the one or the other happened. */
     void alike(Due due, String what, Consumer<OnceWire> call, Consumer<OnceWire> other) {
-        String shown = difference(call, other);
-        if (!shown.isEmpty()) {
-            due.wrong(what + " changed what is shown by: " + shown);
-        }
+        due.noTrace(what, difference(call, other));
     }
 
     /** The first question that is answered otherwise after the one than after the other. */

@@ -2,7 +2,7 @@ import java.util.LinkedHashMap;
 import java.util.Map;
 import java.util.function.Consumer;
 
-/** The helper Trace finds what every call that changes something has changed, and looks leave none. */
+/** The helper Trace finds what every call that changes something has changed. */
 public final class TraceTest {
     private static final Due DUE = new Due();
 
