@@ -1,12 +1,16 @@
+import java.io.IOException;
 import java.lang.reflect.Constructor;
 import java.lang.reflect.Field;
 import java.lang.reflect.Method;
 import java.lang.reflect.Modifier;
+import java.nio.file.Files;
+import java.nio.file.Path;
 import java.util.Set;
 import java.util.TreeSet;
 
 /** The public face: exactly the constants, the constructor and the methods of the document. */
 public final class FaceTest {
+    private static final Path DOCUMENT = Path.of("../shared/DOC.md");
     private static final String[] CONSTANTS = {"RAN 0", "AGAIN 1", "NOPROCEDURE 2", "GARBAGE 3",
         "ACCEPTED 4", "STALE 5", "PENDING 3", "NONE -1", "BROKEN -2", "WRONG -3", "BAD -4", "FULL -5"};
     private static final String[] METHODS = {
@@ -20,7 +24,7 @@ public final class FaceTest {
         "public int OnceWire.size(int)", "public int OnceWire.byteAt(int,int)"};
     private static final Due DUE = new Due();
 
-    public static void main(String[] args) throws ReflectiveOperationException {
+    public static void main(String[] args) throws ReflectiveOperationException, IOException {
         DUE.same("public final", OnceWire.class.getModifiers(), Modifier.PUBLIC | Modifier.FINAL);
         DUE.of("The constants: `PENDING = 3`, `NONE = -1`, `BROKEN = -2`, `WRONG = -3`, `BAD = -4`,"
                 + " `FULL = -5`: The status of a pending call.");
@@ -38,7 +42,30 @@ public final class FaceTest {
             DUE.yes(inside + " is static and not open", Modifier.isStatic(how)
                     && !Modifier.isPublic(how) && !Modifier.isProtected(how));
         }
+        document();
         DUE.end();
+    }
+
+    /** The lists above say what the document's code block says, names of parameters left out. */
+    private static void document() throws IOException {
+        if (!Files.exists(DOCUMENT)) {
+            System.out.println("there is no " + DOCUMENT + " to hold the face against");
+            return;
+        }
+        Set<String> told = new TreeSet<>();
+        String block = Files.readString(DOCUMENT).split("```java\n", 2)[1].split("```", 2)[0];
+        for (String line : block.split("\n")) {
+            told.add(line.strip().replaceAll("(int|boolean) \\w+(, |\\))", "$1$2"));
+        }
+        Set<String> listed = new TreeSet<>(Set.of("public final class OnceWire {", "}",
+                "public OnceWire(int);"));
+        for (String constant : CONSTANTS) {
+            listed.add("public static final int " + constant.replace(" ", " = ") + ";");
+        }
+        for (String method : METHODS) {
+            listed.add(method.replace("OnceWire.", "").replace(",", ", ") + ";");
+        }
+        alike("the document's face", listed, told);
     }
 
     private static Set<String> constants() throws IllegalAccessException {

@@ -11,8 +11,9 @@ import java.util.regex.Pattern;
 import java.util.stream.Stream;
 
 /**
- * Every sentence of the document, from the terms to the last promise, has a test: each test says by
- * 'of' which words it is about, and no words of the document are left without one.
+ * Every sentence of the document, from what the class is to the last promise, has a test: each test
+ * says by 'of' which words it is about, and no words of the document are left without one. The face
+ * has its own test, and 'Not promised' asks for nothing.
  */
 public final class SentencesTest {
     private static final Path DOCUMENT = Path.of("../shared/DOC.md");
@@ -28,7 +29,7 @@ public final class SentencesTest {
             return;
         }
         Map<String, String> chapters = chapters(Files.readString(DOCUMENT));
-        DUE.same("chapters", chapters.size(), 19);
+        DUE.same("chapters", chapters.size(), 20);
         try (Stream<Path> files = Files.list(TESTS)) {
             for (Path file : files.filter(f -> f.toString().endsWith("Test.java")).sorted().toList()) {
                 strike(chapters, file);
@@ -44,12 +45,12 @@ public final class SentencesTest {
         DUE.end();
     }
 
-    /** The chapters with promises, and the one with terms, each as one line without its marks. */
+    /** The chapters that ask for something in words, each as one line without its marks. */
     private static Map<String, String> chapters(String document) {
         Map<String, String> all = new LinkedHashMap<>();
         for (String chapter : document.split("(?m)^## ")) {
             String[] parts = chapter.split("\n", 2);
-            if (parts[0].startsWith("Terms") || parts[0].startsWith("Promise")) {
+            if (parts[0].matches("What it is|Terms|Promise \\d+: .*")) {
                 String text = parts[1].replaceAll("(?m)^```.*$", "").replaceAll("(?m)^`[^`]*`:", "");
                 all.put(parts[0].split(":")[0], text.replaceAll("\\s+", " "));
             }
@@ -59,7 +60,10 @@ public final class SentencesTest {
 
     private static String chapterOf(Path file) {
         Matcher promise = Pattern.compile("Promise(\\d\\d)").matcher(file.getFileName().toString());
-        return promise.find() ? "Promise " + Integer.parseInt(promise.group(1)) : "Terms";
+        if (promise.find()) {
+            return "Promise " + Integer.parseInt(promise.group(1));
+        }
+        return file.endsWith("WhatItIsTest.java") ? "What it is" : "Terms";
     }
 
     private static void strike(Map<String, String> chapters, Path file) throws IOException {
